@@ -65,7 +65,7 @@ public final class ReferenceTest {
         inputs = reference.look(1);
         int left = CALLS - describe(pick(4));
         for (int call = 0; call < left && !differs; call++) {
-            // Sealed late now and then, to try the calls before it, but seldom as often as the others come.
+            // Sealing comes late enough that the calls before it are tried too.
             if (reference.look(2) == 0 && pick(25) == 0) {
                 seal();
             } else {
