@@ -29,6 +29,14 @@ final class Check {
         due(what, want, answerOf(call));
     }
 
+    static void dueText(String what, String want, String got) {
+        asked++;
+        if (!got.equals(want)) {
+            wrong++;
+            System.out.println(what + " answered '" + got + "', due is '" + want + "'");
+        }
+    }
+
     /** The answer of a call, or a number for the exception that it throws. */
     static int answer(IntSupplier call) {
         try {

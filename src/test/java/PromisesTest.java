@@ -1,37 +1,7 @@
 /** Each promise by examples worked out by hand: ordinary inputs, the edges that the document names, and wrong inputs. */
 public final class PromisesTest {
-    /** State 3 is not reached but alike to 1; state 4 is not reached and alike to none. */
-    private static final int[][] LADDER = {
-        {0, 0, 1, 0}, {0, 1, 0, 0},
-        {1, 0, 2, 0}, {1, 1, 0, 1},
-        {2, 0, 2, 0}, {2, 1, 1, 2},
-        {3, 0, 2, 0}, {3, 1, 0, 1},
-        {4, 0, 4, 3}, {4, 1, 4, 0},
-    };
     private static final String[] LADDER_TESTS = {"0001", "0011", "011", "11"};
     private static final String[] LADDER_OUTPUTS = {"0002", "0021", "010", "00"};
-
-    /** Input 0 tells by the low half of the state's number, input 1 by the high half. */
-    private static final int[][] SQUARE = {
-        {0, 0, 1, 0}, {0, 1, 2, 0},
-        {1, 0, 1, 1}, {1, 1, 3, 0},
-        {2, 0, 2, 0}, {2, 1, 2, 1},
-        {3, 0, 3, 1}, {3, 1, 3, 1},
-    };
-
-    /** Its suite(1, 2) has just 800 beginnings. */
-    private static final int[][] JUST_FITS = {
-        {0, 0, 1, 0}, {0, 1, 2, 0}, {0, 2, 5, 0}, {1, 0, 2, 0}, {1, 1, 4, 0}, {1, 2, 1, 0},
-        {2, 0, 3, 0}, {2, 1, 2, 0}, {2, 2, 0, 0}, {3, 0, 4, 0}, {3, 1, 2, 0}, {3, 2, 2, 0},
-        {4, 0, 5, 0}, {4, 1, 4, 0}, {4, 2, 3, 0}, {5, 0, 0, 1}, {5, 1, 4, 0}, {5, 2, 5, 0},
-    };
-
-    /** Its suite(1, 2) would have 801 beginnings. */
-    private static final int[][] ONE_TOO_MANY = {
-        {0, 0, 1, 0}, {0, 1, 4, 0}, {0, 2, 6, 0}, {1, 0, 2, 0}, {1, 1, 1, 0}, {1, 2, 0, 0}, {2, 0, 3, 0},
-        {2, 1, 1, 0}, {2, 2, 2, 0}, {3, 0, 4, 1}, {3, 1, 5, 1}, {3, 2, 0, 0}, {4, 0, 5, 0}, {4, 1, 4, 0},
-        {4, 2, 2, 0}, {5, 0, 6, 1}, {5, 1, 1, 0}, {5, 2, 0, 0}, {6, 0, 0, 0}, {6, 1, 2, 0}, {6, 2, 2, 0},
-    };
 
     private PromisesTest() {
     }
@@ -58,24 +28,8 @@ public final class PromisesTest {
         Check.finish("PromisesTest");
     }
 
-    private static TestBench open(int n, int k, int[][] edges) {
-        TestBench x = new TestBench(n, k);
-        for (int[] e : edges) {
-            x.edge(e[0], e[1], e[2], e[3]);
-        }
-        return x;
-    }
-
-    private static TestBench ladder() {
-        TestBench x = open(5, 2, LADDER);
-        x.seal();
-        return x;
-    }
-
     private static TestBench square() {
-        TestBench x = open(4, 2, SQUARE);
-        x.seal();
-        return x;
+        return Examples.sealed(4, 2, Examples.SQUARE);
     }
 
     private static void dueWord(String what, String want, TestBench x) {
@@ -97,7 +51,7 @@ public final class PromisesTest {
         TestBench bare = new TestBench(4, 2);
         Check.due("a bare machine has one minimal state", 1, bare.seal());
         Check.due("all bare states are alike", 0, bare.minimal(3));
-        Check.due("the start is 0 at first", 3, open(5, 2, LADDER).seal());
+        Check.due("the start is 0 at first", 3, Examples.open(5, 2, Examples.LADDER).seal());
     }
 
     private static void edge() {
@@ -118,7 +72,7 @@ public final class PromisesTest {
     }
 
     private static void start() {
-        TestBench x = open(5, 2, LADDER);
+        TestBench x = Examples.open(5, 2, Examples.LADDER);
         Check.dueOf("start(-1)", Check.IAE, () -> x.start(-1));
         Check.dueOf("start(5)", Check.IAE, () -> x.start(5));
         x.start(4);
@@ -131,14 +85,14 @@ public final class PromisesTest {
     }
 
     private static void seal() {
-        TestBench x = open(5, 2, LADDER);
+        TestBench x = Examples.open(5, 2, Examples.LADDER);
         Check.due("seal()", 3, x::seal);
         Check.due("seal() again", Check.ISE, x::seal);
-        Check.due("seal() of the square", 4, open(4, 2, SQUARE).seal());
+        Check.due("seal() of the square", 4, Examples.open(4, 2, Examples.SQUARE).seal());
     }
 
     private static void minimal() {
-        TestBench x = open(5, 2, LADDER);
+        TestBench x = Examples.open(5, 2, Examples.LADDER);
         Check.due("minimal(0) before seal", TestBench.NONE, x.minimal(0));
         x.seal();
         int[] want = {0, 1, 2, 1, TestBench.NONE, TestBench.NONE};
@@ -146,7 +100,7 @@ public final class PromisesTest {
             Check.due("minimal(" + s + ")", want[s], x.minimal(s));
         }
         Check.due("minimal(-1)", TestBench.NONE, x.minimal(-1));
-        TestBench y = open(5, 2, LADDER);
+        TestBench y = Examples.open(5, 2, Examples.LADDER);
         y.start(3);
         y.seal();
         int[] fromThree = {2, 0, 1, 0, TestBench.NONE};
@@ -174,14 +128,14 @@ public final class PromisesTest {
         dueWord("apart(2, 0)", "1", x);
         Check.due("apart(1, 1)", 0, x.apart(1, 1));
         dueWord("apart(1, 1)", "", x);
-        TestBench y = ladder();
+        TestBench y = Examples.ladder();
         Check.due("apart of alike states", 0, y.apart(1, 3));
         Check.due("apart of states that are not reached", 1, y.apart(3, 4));
         dueWord("apart(3, 4)", "0", y);
     }
 
     private static void family() {
-        TestBench x = open(4, 2, SQUARE);
+        TestBench x = Examples.open(4, 2, Examples.SQUARE);
         Check.due("family(-1, 0) before seal", TestBench.NONE, x.family(-1, 0));
         x.seal();
         Check.due("family(-1, 0)", 2, x.family(-1, 0));
@@ -203,7 +157,7 @@ public final class PromisesTest {
     }
 
     private static void own() {
-        TestBench x = open(4, 2, SQUARE);
+        TestBench x = Examples.open(4, 2, Examples.SQUARE);
         Check.due("own(0, -1) before seal", TestBench.NONE, x.own(0, -1));
         x.seal();
         int[][] want = {{0, 1}, {0, 1}, {1, 0}, {0, 1}};
@@ -216,11 +170,11 @@ public final class PromisesTest {
         }
         Check.due("own(4, -1)", TestBench.NONE, x.own(4, -1));
         Check.due("own(-1, -1)", TestBench.NONE, x.own(-1, -1));
-        Check.due("own is by minimal states", TestBench.NONE, ladder().own(3, -1));
+        Check.due("own is by minimal states", TestBench.NONE, Examples.ladder().own(3, -1));
     }
 
     private static void suite() {
-        TestBench x = open(5, 2, LADDER);
+        TestBench x = Examples.open(5, 2, Examples.LADDER);
         Check.due("suite before seal", Check.ISE, () -> x.suite(0, 0));
         Check.due("wrong suite before seal", Check.IAE, () -> x.suite(2, 0));
         x.seal();
@@ -241,12 +195,10 @@ public final class PromisesTest {
     }
 
     private static void suiteThatDoesNotFit() {
-        TestBench fits = open(6, 3, JUST_FITS);
-        fits.seal();
+        TestBench fits = Examples.sealed(5, 3, Examples.JUST_FITS);
         Check.due("800 beginnings fit", 1, fits.suite(1, 2) > 0 ? 1 : 0);
         Check.due("its beginnings", 800, fits.look(6));
-        TestBench x = open(7, 3, ONE_TOO_MANY);
-        x.seal();
+        TestBench x = Examples.sealed(5, 3, Examples.ONE_TOO_MANY);
         Check.due("801 beginnings do not fit", Check.UOE, () -> x.suite(1, 2));
         Check.due("no suite", Check.ISE, x::run);
         int tests = x.suite(0, 0);
@@ -265,7 +217,7 @@ public final class PromisesTest {
     }
 
     private static void test() {
-        TestBench x = ladder();
+        TestBench x = Examples.ladder();
         Check.due("test without a suite", TestBench.NONE, x.test(0, -1, false));
         x.suite(0, 0);
         for (int w = 0; w < LADDER_TESTS.length; w++) {
@@ -285,7 +237,7 @@ public final class PromisesTest {
     }
 
     private static void resize() {
-        TestBench x = open(5, 2, LADDER);
+        TestBench x = Examples.open(5, 2, Examples.LADDER);
         Check.dueOf("resize before seal", Check.ISE, () -> x.resize(3));
         Check.dueOf("wrong resize before seal", Check.IAE, () -> x.resize(0));
         x.seal();
@@ -310,7 +262,7 @@ public final class PromisesTest {
     }
 
     private static void change() {
-        TestBench x = open(5, 2, LADDER);
+        TestBench x = Examples.open(5, 2, Examples.LADDER);
         Check.dueOf("change before seal", Check.ISE, () -> x.change(0, 0, 0, 0));
         Check.dueOf("wrong change before seal", Check.ISE, () -> x.change(9, 9, 9, 9));
         x.seal();
@@ -329,7 +281,7 @@ public final class PromisesTest {
     }
 
     private static void runAndFailed() {
-        TestBench x = open(5, 2, LADDER);
+        TestBench x = Examples.open(5, 2, Examples.LADDER);
         Check.due("run() before seal", Check.ISE, x::run);
         x.seal();
         Check.due("run() without a suite", Check.ISE, x::run);
@@ -353,7 +305,7 @@ public final class PromisesTest {
     }
 
     private static void beginAndGive() {
-        TestBench x = ladder();
+        TestBench x = Examples.ladder();
         Check.due("begin without a suite", Check.IAE, () -> x.begin(0));
         Check.due("give without a test", Check.ISE, () -> x.give(0));
         Check.due("a wrong output without a test", Check.ISE, () -> x.give(4));
@@ -382,7 +334,7 @@ public final class PromisesTest {
     }
 
     private static void same() {
-        TestBench x = open(5, 2, LADDER);
+        TestBench x = Examples.open(5, 2, Examples.LADDER);
         Check.due("same() before seal", Check.ISE, x::same);
         x.seal();
         x.apart(0, 1);
@@ -391,14 +343,14 @@ public final class PromisesTest {
         x.change(0, 1, 1, 0);
         Check.due("same()", 2, x.same());
         dueWord("same()", "11", x);
-        TestBench y = open(5, 2, LADDER);
+        TestBench y = Examples.open(5, 2, Examples.LADDER);
         y.start(3);
         y.seal();
         Check.due("it is from the specification's start", 0, y.same());
     }
 
     private static void covered() {
-        TestBench x = ladder();
+        TestBench x = Examples.ladder();
         Check.due("covered() without a suite", 0, x.covered());
         x.suite(0, 0);
         Check.due("covered()", 6, x.covered());
@@ -408,7 +360,7 @@ public final class PromisesTest {
     }
 
     private static void look() {
-        TestBench x = open(5, 2, LADDER);
+        TestBench x = Examples.open(5, 2, Examples.LADDER);
         dueLooks("before seal", x, 5, 2, 0, 0, 0, 0, 0);
         x.seal();
         dueLooks("sealed", x, 5, 2, 1, 3, 0, 3, 0);

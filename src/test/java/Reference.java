@@ -175,13 +175,7 @@ final class Reference {
         need(in(method, 2) && in(m, 3));
         allow(sealed);
         Set<String> words = suiteWords(method, m);
-        Set<String> starts = new HashSet<>();
-        starts.add("");
-        for (String w : words) {
-            for (int end = 0; end <= w.length(); end++) {
-                starts.add(w.substring(0, end));
-            }
-        }
+        Set<String> starts = beginningsOf(words);
         if (starts.size() > 800) {
             throw new UnsupportedOperationException();
         }
@@ -200,6 +194,22 @@ final class Reference {
         beginnings = starts.size();
         hand = null;
         return tests.size();
+    }
+
+    /** How many beginnings a suite has, whether it fits or not. */
+    int countBeginnings(int method, int m) {
+        return beginningsOf(suiteWords(method, m)).size();
+    }
+
+    private static Set<String> beginningsOf(Set<String> words) {
+        Set<String> starts = new HashSet<>();
+        starts.add("");
+        for (String w : words) {
+            for (int end = 0; end <= w.length(); end++) {
+                starts.add(w.substring(0, end));
+            }
+        }
+        return starts;
     }
 
     private Set<String> suiteWords(int method, int m) {

@@ -13,6 +13,7 @@ public final class ReferenceTest {
     private int inputs;
     private final List<String> calls = new ArrayList<>();
     private boolean differs;
+    private int used;
 
     public static void main(String[] args) {
         for (int run = 0; run < RUNS; run++) {
@@ -45,7 +46,13 @@ public final class ReferenceTest {
         return pick(Math.max(1, below));
     }
 
+    /** What an object answers behind its 512th call is free. */
+    private boolean mayCall() {
+        return used < CALLS && !differs;
+    }
+
     private void ask(String call, int want, int got) {
+        used++;
         calls.add(call + " = " + got);
         if (want != got && !differs) {
             differs = true;
@@ -63,8 +70,8 @@ public final class ReferenceTest {
         calls.add("run " + run + ": new TestBench(" + n + ", " + k + ")");
         states = reference.look(0);
         inputs = reference.look(1);
-        int left = CALLS - describe(pick(4));
-        for (int call = 0; call < left && !differs; call++) {
+        describe(pick(4));
+        while (mayCall()) {
             // Sealing comes late enough that the calls before it are tried too.
             if (reference.look(2) == 0 && pick(25) == 0) {
                 seal();
@@ -74,20 +81,17 @@ public final class ReferenceTest {
         }
     }
 
-    /** Edges of one of several kinds; answers how many calls that took. */
-    private int describe(int kind) {
-        int made = 0;
+    /** Edges of one of several kinds. */
+    private void describe(int kind) {
         for (int s = 0; s < states; s++) {
             for (int a = 0; a < inputs; a++) {
                 int next = kind == 0 ? pick(states) : kind == 1 && a == 0 ? (s + 1) % states : kind == 2 ? pick(s + 1) : (s + pick(3)) % states;
                 int output = kind == 0 ? pick(4) : pick(9) == 0 ? pick(4) : 0;
                 if (pick(10) != 0) {
                     edge(s, a, next, output);
-                    made++;
                 }
             }
         }
-        return made;
     }
 
     private void edge(int s, int a, int next, int output) {
@@ -154,7 +158,9 @@ public final class ReferenceTest {
 
     private void suite(int method, int m) {
         ask("suite(" + method + ", " + m + ")", Check.answer(() -> reference.suite(method, m)), Check.answer(() -> bench.suite(method, m)));
-        ask("look(6)", reference.look(6), bench.look(6));
+        if (mayCall()) {
+            look(6);
+        }
     }
 
     private void test(int w, int i, boolean expected) {
@@ -178,7 +184,7 @@ public final class ReferenceTest {
     }
 
     private void giveSome(int times) {
-        for (int i = 0; i < times && !differs; i++) {
+        for (int i = 0; i < times && mayCall(); i++) {
             int output = pick(8) == 0 ? near(4) : 0;
             ask("give(" + output + ")", Check.answer(() -> reference.give(output)), Check.answer(() -> bench.give(output)));
         }
